@@ -1,0 +1,85 @@
+/** Counts answers that are not the ones that are due; a test ends with close(). */
+final class Due {
+    static final int BAD = -1, STATE = -2, FULL = -3, NONE = -4;
+    static final int[] WILD = {Integer.MIN_VALUE, Integer.MIN_VALUE + 1, -1000, -41, -1, Integer.MAX_VALUE - 1, Integer.MAX_VALUE};
+
+    private final String test;
+    private int asked;
+    private int wrong;
+
+    Due(String test) {
+        this.test = test;
+    }
+
+    void is(String call, long got, long want) {
+        asked++;
+        if (got != want) {
+            wrong++;
+            if (wrong <= 50) {
+                System.out.println(test + ": " + call + " answered " + got + ", due is " + want);
+            }
+        }
+    }
+
+    void same(String call, String got, String want) {
+        asked++;
+        if (!got.equals(want)) {
+            wrong++;
+            if (wrong <= 50) {
+                System.out.println(test + ": " + call + ":\n  is     " + got + "\n  due is " + want);
+            }
+        }
+    }
+
+    void close() {
+        System.out.println(test + ": " + asked + " answers, " + wrong + " not as due");
+        if (wrong != 0) {
+            System.exit(1);
+        }
+    }
+
+    static void feedAll(DebtRides x, String text) {
+        for (int i = 0; i < text.length(); i++) {
+            x.feed(text.charAt(i));
+        }
+    }
+
+    /** What text() answers to this, fed behind an empty tape. */
+    static int tell(DebtRides x, String text) {
+        x.end(0);
+        feedAll(x, text);
+        return x.text();
+    }
+
+    static DebtRides told(String text) {
+        DebtRides x = new DebtRides();
+        int lines = tell(x, text);
+        if (lines < 0) {
+            throw new IllegalStateException("a test's own text is not taken: " + text + " " + lines);
+        }
+        return x;
+    }
+
+    /** All that can be asked of an object without changing it, but for sheets' cells. */
+    static String state(DebtRides x) {
+        StringBuilder s = new StringBuilder();
+        for (int w = 0; w < 6; w++) {
+            s.append(x.rule(w)).append(' ');
+        }
+        for (int p = 0; p < x.rule(0); p++) {
+            s.append("| ");
+            for (int w = 0; w < 3; w++) {
+                s.append(x.one(p, w)).append(' ');
+            }
+            for (int q = 0; q < x.rule(0); q++) {
+                s.append(p == q ? "-" : "" + x.owes(p, q)).append(' ');
+            }
+            s.append(x.kinds(p)).append(' ').append(x.earns(p)).append(' ');
+        }
+        s.append("| ");
+        for (int w = 0; w < 5; w++) {
+            s.append(x.count(w)).append(' ');
+        }
+        return s.append(x.fault()).append(' ').append(x.torn()).toString();
+    }
+}
