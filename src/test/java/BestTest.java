@@ -11,6 +11,7 @@ public final class BestTest {
         train();
         luck();
         mean();
+        fivePeople();
         wrongNumbers();
         DUE.close();
     }
@@ -79,6 +80,15 @@ public final class BestTest {
         DUE.is("behind 60", y.kind(0, 1), 60);
         y.bond(0, 1, 61);
         DUE.is("behind 61", y.kind(0, 1), Due.NONE);
+        // A miser who is paid too soon pays a little, owes less than 10 and stops: here a widow rides sooner.
+        DebtRides z = Due.told("plain 1 4;miser 6 1;miser 20 4;plain 27 5;owes 1 2 16;owes 2 0 15;owes 2 1 8;owes 3 2 16;");
+        z.alter(1, 0, 0);
+        int plain = z.rides(1);
+        z.alter(1, 0, 1);
+        int widow = z.rides(1);
+        DUE.is("a widow is sooner", widow < plain || plain == Due.NONE ? 1 : 0, 1);
+        DUE.is("the widow", z.kind(1, 0), 1);
+        DUE.is("the widow, behind", z.kind(1, 1), widow);
     }
 
     private static void late() {
@@ -93,6 +103,10 @@ public final class BestTest {
         DUE.is("no such one", x.late(2, 0), Due.BAD);
         x.alter(0, 2, 0);
         DUE.is("he never rides", x.late(0, 0), Due.NONE);
+        // By a miser who stops when he owes less than 10, a dry year may even make one ride sooner: 5 days, then 4.
+        DebtRides y = Due.told("miser 28 0;widow 29 8;widow 1 2;miser 16 5;owes 0 3 6;owes 1 3 25;owes 2 1 24;owes 3 2 28;");
+        DUE.is("dry 0", y.rides(2), 5);
+        DUE.is("sooner", y.late(2, 2), -1);
     }
 
     private static void train() {
@@ -167,6 +181,27 @@ public final class BestTest {
             y.bond(i / 5, i % 5, 99);
         }
         mean(y, 7, 8, 1980, 1);
+    }
+
+    private static void fivePeople() {
+        // Each but the last owes 1, and the last has what two of them need.
+        DebtRides x = Due.told("plain 0 0;".repeat(4) + "plain 99 0;owes 0 1 1;owes 1 2 1;owes 2 3 1;owes 3 4 1;owes 4 3 1;");
+        DUE.is("as it is", x.runs(30, 1), 24);
+        DUE.is("give", x.give(1, 0), 0);
+        DUE.is("give, how many", x.give(1, 1), 5);
+        DUE.is("forgive", x.forgive(0), 1);
+        DUE.is("forgive, how many", x.forgive(1), 3);
+        DUE.is("train", x.train(30, 0), 0);
+        DUE.is("train, how much", x.train(30, 1), 1);
+        DUE.is("kind", x.kind(4, 1), 1);
+        luck(x, 1, 4, 8, 1, 1);
+        mean(x, 1, 8, 3, 1);
+        DebtRides y = Due.told("plain 0 9;".repeat(5) + "owes 4 0 9;owes 4 1 9;owes 4 2 9;owes 4 3 9;");
+        DUE.is("who rides last", y.rides(4), 4);
+        DUE.is("forgive none", y.forgive(0), Due.NONE);
+        luck(y, 1, 4, 4, 6561, 10000);
+        luck(y, 9, 4, 4, 1, 10000);
+        mean(y, 1, 1, 279, 10);
     }
 
     private static void wrongNumbers() {

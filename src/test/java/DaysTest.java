@@ -36,6 +36,11 @@ public final class DaysTest {
         DUE.is("below 0", x.alter(1, 1, -1), Due.BAD);
         DUE.is("no such one", x.alter(4, 1, 0), Due.BAD);
         DUE.is("others stay", x.one(0, 1), 10);
+        DebtRides y = Due.told("plain 1 2;".repeat(5));
+        DUE.is("kind of the fifth", y.alter(4, 0, 3), 0);
+        DUE.is("money of the fifth", y.alter(4, 1, 7), 1);
+        DUE.is("earns of the fifth", y.alter(4, 2, 8), 2);
+        DUE.is("the fifth then", 100 * y.one(4, 0) + 10 * y.one(4, 1) + y.one(4, 2), 378);
     }
 
     private static void bondAndDry() {

@@ -8,6 +8,7 @@ public final class RingTest {
         fewestPeople();
         firstByRow();
         ringOfFive();
+        ringsOfOne();
         clearing();
         none();
         wrongNumbers();
@@ -92,6 +93,17 @@ public final class RingTest {
         DUE.is("clear all", y.clear(), 1980);
         DUE.is("all ride", y.rule(3), 31);
         DUE.is("money is as it was", y.rule(5), 0);
+    }
+
+    private static void ringsOfOne() {
+        DebtRides x = Due.told(FIVE + "owes 3 1 1;owes 1 4 1;owes 4 3 1;");
+        DUE.is("three", x.ring(0), 3);
+        DUE.is("of 1", x.ring(1), 1);
+        int[] row = {1, 4, 3, Due.NONE, Due.NONE};
+        for (int i = 0; i < 5; i++) {
+            DUE.is("ring one " + i, x.ring(10 + i), row[i]);
+        }
+        DUE.is("clear", x.clear(), 3);
     }
 
     private static void none() {

@@ -25,6 +25,8 @@ public final class SeenTest {
         DUE.is("a seventh", x.see(3, 0, true), Due.FULL);
         DUE.is("a bad seventh", x.see(31, 0, true), Due.BAD);
         DUE.is("how many", x.count(0), 6);
+        DUE.is("kinds by six", x.kinds(0), 1);
+        DUE.is("earns by six", x.earns(0), 1020);
     }
 
     private static void forget() {

@@ -103,6 +103,9 @@ public final class TextTest {
         taken("plain5 2;", 1);
         taken("  plain   5   2  ;  dry0;", 2);
         taken("plain 05 09;", 1);
+        taken(" ".repeat(160), 0);
+        taken("dry 9;" + " ".repeat(154), 1);
+        taken(" ".repeat(154) + "dry 9;", 1);
         taken("plain 99 9;widow 0 0;squire 99 9;miser 1 1;plain 3 3;", 5);
         taken("owes 0 1 1;plain 1 1;plain 1 1;", 3);
         taken("owes 0 1 99;owes 1 0 1;plain 1 1;plain 1 1;dry 9;", 5);
@@ -138,6 +141,11 @@ public final class TextTest {
         refused("plains 1 1;", 2, 0);
         refused("plai 1 1;", 2, 0);
         refused("pl ain 1 1;", 2, 0);
+        refused("slain 1 1;", 2, 0);
+        refused("plainz 1 1;", 2, 0);
+        refused("z", 2, 0);
+        refused("plain 1 1;" + " ".repeat(149) + "9", 2, 159);
+        refused("plain 1 1;" + " ".repeat(145) + "plain", 2, 160);
         refused("dryness 1;", 2, 0);
         refused("owe 0 1 1;", 2, 0);
         refused("5;", 2, 0);
