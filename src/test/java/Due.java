@@ -1,9 +1,13 @@
+import java.util.function.Supplier;
+
 /** Counts answers that are not the ones that are due; a test ends with close(). */
 final class Due {
     static final int BAD = -1, STATE = -2, FULL = -3, NONE = -4;
     static final int[] WILD = {Integer.MIN_VALUE, Integer.MIN_VALUE + 1, -1000, -41, -1, Integer.MAX_VALUE - 1, Integer.MAX_VALUE};
 
     private final String test;
+    private String sentence = "";
+    private int sentences;
     private int asked;
     private int wrong;
 
@@ -11,12 +15,28 @@ final class Due {
         this.test = test;
     }
 
+    /** What comes behind this tests this sentence of the document. */
+    void sentence(String words) {
+        sentence = "[" + words + "] ";
+        sentences++;
+    }
+
     void is(String call, long got, long want) {
         asked++;
         if (got != want) {
             wrong++;
             if (wrong <= 50) {
-                System.out.println(test + ": " + call + " answered " + got + ", due is " + want);
+                System.out.println(test + ": " + sentence + call + " answered " + got + ", due is " + want);
+            }
+        }
+    }
+
+    void isNot(String call, long got, long unwanted) {
+        asked++;
+        if (got == unwanted) {
+            wrong++;
+            if (wrong <= 50) {
+                System.out.println(test + ": " + sentence + call + " answered " + got + ", due is another answer");
             }
         }
     }
@@ -26,15 +46,32 @@ final class Due {
         if (!got.equals(want)) {
             wrong++;
             if (wrong <= 50) {
-                System.out.println(test + ": " + call + ":\n  is     " + got + "\n  due is " + want);
+                System.out.println(test + ": " + sentence + call + ":\n  is     " + got + "\n  due is " + want);
             }
         }
     }
 
     void close() {
-        System.out.println(test + ": " + asked + " answers, " + wrong + " not as due");
+        String told = sentences == 0 ? "" : " to " + sentences + " sentences";
+        System.out.println(test + ": " + asked + " answers" + told + ", " + wrong + " not as due");
         if (wrong != 0) {
             System.exit(1);
+        }
+    }
+
+    /** A call of which all is sound but perhaps one number. */
+    interface Ask {
+        long of(DebtRides x, int v);
+    }
+
+    /** The least and the greatest that a number may be are taken, all beyond is BAD. */
+    void bounds(String number, Supplier<DebtRides> fresh, int lowest, int highest, Ask ask) {
+        isNot(number + " " + lowest, ask.of(fresh.get(), lowest), BAD);
+        isNot(number + " " + highest, ask.of(fresh.get(), highest), BAD);
+        is(number + " " + (lowest - 1), ask.of(fresh.get(), lowest - 1), BAD);
+        is(number + " " + (highest + 1), ask.of(fresh.get(), highest + 1), BAD);
+        for (int wild : WILD) {
+            is(number + " " + wild, ask.of(fresh.get(), wild), BAD);
         }
     }
 
