@@ -103,12 +103,13 @@ final class Due {
         for (int w = 0; w < 6; w++) {
             s.append(x.rule(w)).append(' ');
         }
-        for (int p = 0; p < x.rule(0); p++) {
+        int people = x.rule(0);
+        for (int p = 0; p < people; p++) {
             s.append("| ");
             for (int w = 0; w < 3; w++) {
                 s.append(x.one(p, w)).append(' ');
             }
-            for (int q = 0; q < x.rule(0); q++) {
+            for (int q = 0; q < people; q++) {
                 s.append(p == q ? "-" : "" + x.owes(p, q)).append(' ');
             }
             s.append(x.kinds(p)).append(' ').append(x.earns(p)).append(' ');

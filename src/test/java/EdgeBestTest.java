@@ -271,6 +271,13 @@ public final class EdgeBestTest {
         }
         DUE.is("clear", x.clear(), 1980);
         DUE.is("all ride", x.rule(3), 31);
+        // Each owes two 60 and two 30, and is owed as much: ten rings of two leave 30s that clear one another in longer ones.
+        for (int i = 0; i < 25; i++) {
+            int step = (i % 5 - i / 5 + 5) % 5;
+            x.bond(i / 5, i % 5, step == 1 || step == 2 ? 60 : 30);
+        }
+        DUE.is("owed", x.rule(4), 900);
+        DUE.is("clear by more than ten rings", x.clear(), 900);
     }
 
     // ---- promise 23

@@ -318,7 +318,8 @@ public final class EdgeTextTest {
     private static void nameThatBeginsNoLine() {
         DUE.sentence("2 (a NAME that begins no line)");
         for (String name : new String[] {"plai", "plains", "wido", "widows", "squir", "squires", "mise", "misers",
-            "owe", "owess", "dr", "dryy", "a", "z"}) {
+            "owe", "owess", "dr", "dryy", "a", "z", "xlain", "xidow", "xquire", "xiser", "xwes", "xry", "plaix", "widox",
+            "squirx", "misex", "owex", "drx"}) {
             refused(name + " 1 1;", 2, 0);
             refused("dry 1; " + name, 2, 7);
         }

@@ -5,8 +5,12 @@ import java.lang.reflect.Method;
 import java.lang.reflect.Modifier;
 import java.nio.file.Files;
 import java.nio.file.Path;
+import java.util.ArrayList;
 import java.util.Arrays;
+import java.util.List;
+import java.util.Map;
 import java.util.Set;
+import java.util.TreeMap;
 import java.util.TreeSet;
 import java.util.regex.Matcher;
 import java.util.regex.Pattern;
@@ -33,6 +37,7 @@ public final class FaceTest {
         forbiddenWords(code);
         library(code);
         shortMethods(code);
+        callsAtMostEightDeep(code);
         DUE.close();
     }
 
@@ -143,5 +148,45 @@ public final class FaceTest {
             }
         }
         DUE.is("each method ends", start, -1);
+    }
+
+    /** By names alone: methods of one name count as one, so the chain that is found may be longer than the true one. */
+    private static void callsAtMostEightDeep(String code) {
+        Map<String, String> bodies = new TreeMap<>();
+        Matcher head = Pattern.compile("\n( +)(?!return|if|for|while|switch|\\}| )[\\w\\[\\] ]*?(\\w+)\\([^()]*\\) \\{\n").matcher(code);
+        while (head.find()) {
+            int end = code.indexOf("\n" + head.group(1) + "}", head.end() - 1);
+            bodies.merge(head.group(2), code.substring(head.end(), Math.max(head.end(), end)), String::concat);
+        }
+        DUE.is("all of the face is found", bodies.keySet().containsAll(Arrays.stream(FACE)
+                .map(f -> f.replaceAll(".* (\\w+)\\(.*", "$1")).toList()) ? 1 : 0, 1);
+        Map<String, Set<String>> calls = new TreeMap<>();
+        bodies.forEach((name, body) -> {
+            Set<String> called = new TreeSet<>();
+            Matcher call = Pattern.compile("(\\w+)\\(").matcher(body);
+            while (call.find()) {
+                if (bodies.containsKey(call.group(1))) {
+                    called.add(call.group(1));
+                }
+            }
+            calls.put(name, called);
+        });
+        for (String name : bodies.keySet()) {
+            List<String> chain = longest(name, calls, new ArrayList<>(List.of(name)));
+            DUE.is("eight at most: " + chain, Math.max(8, chain.size()), 8);
+        }
+    }
+
+    private static List<String> longest(String name, Map<String, Set<String>> calls, List<String> open) {
+        List<String> best = new ArrayList<>(open);
+        for (String next : calls.get(name)) {
+            if (!open.contains(next)) {
+                open.add(next);
+                List<String> chain = longest(next, calls, open);
+                open.remove(open.size() - 1);
+                best = chain.size() > best.size() ? chain : best;
+            }
+        }
+        return best;
     }
 }
