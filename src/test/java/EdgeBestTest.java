@@ -50,6 +50,7 @@ public final class EdgeBestTest {
         giveMost();
         giveFirst();
         giveNobody();
+        giveWhenNobodyRides();
     }
 
     private static void forgive() {
@@ -58,6 +59,7 @@ public final class EdgeBestTest {
         forgiveLeast();
         forgiveBehindThirtyDays();
         forgiveNone();
+        forgiveWhenNobodyRides();
     }
 
     private static void kind() {
@@ -331,6 +333,17 @@ public final class EdgeBestTest {
         DUE.is("99 of 99", earner(0, 99).give(99, 1), 2);
     }
 
+    private static void giveWhenNobodyRides() {
+        DUE.sentence("23: more than as it is (nobody RIDES as it is)");
+        DebtRides x = Due.told("widow 0 0;widow 0 0;owes 0 1 9;owes 1 0 5;");
+        DUE.is("as it is", x.runs(30, 1), 0);
+        DUE.is("of 1 a widow pays nothing", x.give(1, 0), Due.NONE);
+        DUE.is("of 1 a widow pays nothing, how many", x.give(1, 1), Due.NONE);
+        // Of 10 he pays 5, gets 2, pays 3, gets 3 and pays 1: both ride behind 3 days.
+        DUE.is("10", x.give(10, 0), 0);
+        DUE.is("10, how many", x.give(10, 1), 2);
+    }
+
     // ---- promise 24
 
     private static void forgiveBounds() {
@@ -383,6 +396,20 @@ public final class EdgeBestTest {
         DebtRides x = Due.told(ONE.repeat(3) + "owes 0 1 1;owes 0 2 1;");
         DUE.is("he owes another", x.forgive(0), Due.NONE);
         DUE.is("he owes another, how many", x.forgive(1), Due.NONE);
+    }
+
+    private static void forgiveWhenNobodyRides() {
+        DUE.sentence("24: more than as it is (nobody RIDES as it is)");
+        DebtRides x = Due.told(TWO + "owes 0 1 9;owes 1 0 9;");
+        DUE.is("as it is", x.runs(30, 1), 0);
+        DUE.is("which", x.forgive(0), 1);
+        DUE.is("how many", x.forgive(1), 1);
+        DebtRides y = Due.told(ONE.repeat(3) + "owes 0 1 9;owes 0 2 9;owes 1 0 9;owes 1 2 9;owes 2 0 9;");
+        DUE.is("as it is", y.runs(30, 1), 0);
+        DUE.is("which", y.forgive(0), 20);
+        y.bond(2, 1, 9);
+        DUE.is("each owes two", y.forgive(0), Due.NONE);
+        DUE.is("each owes two, how many", y.forgive(1), Due.NONE);
     }
 
     // ---- promise 25
